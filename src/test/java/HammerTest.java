@@ -1,6 +1,6 @@
 import java.util.Random;
 
-/** Calls of all kinds with arguments near and far, in whatever state: none may throw, and none that is refused counts. */
+/** Calls of all kinds with arguments near and far, in whatever state: none throws, what is refused changes nothing. */
 public final class HammerTest {
     private static final int RUNS = 400, CALLS = 512;
     private static final int[] FAR = {Integer.MIN_VALUE, Integer.MIN_VALUE + 1, -1000001, -41, -2, -1, 40, 41, 99, 100,

@@ -232,6 +232,8 @@ public final class PromisesTest {
         tells("laws 10 0 0 0;", -1000100, 1);
         tells("la 10 0 0 0;", -1000100, 1);
         tells("Law 10 0 0 0;", -1000100, 1);
+        tells("zaw 10 0 0 0;", -1000100, 1);
+        tells("alaw 10 0 0 0;", -1000100, 1);
         tells("law 10 0 0 0;", 0, 0);
         tells("law 200 20 100 99;", 0, 0);
         tells(" \n law\n10 \n0 0\n0\n;\n ", 0, 0);
@@ -280,6 +282,9 @@ public final class PromisesTest {
         tells(one + "mover inn 0 0 6;", -1000139, 2);
         tells(one + "mover dog 0 0 1;", -1000131, 1);
         tells(one + "mover mover 0 0 1;", -1000131, 1);
+        tells(one + "mover 0 0 1;", -1000131, 1);
+        tells(one + "moverz inn 0 0 1;", -1000125, 1);
+        tells(one + "mover inn 0 0 1;mover priests 0 0 1;", -1000147, 1);
         tells(one + "mover inn 0 0 1;stone 0 1;", -1000141, 1);
         tells(one + "mover inn 0 0 1", -1000140, 1);
         tells(one + "mover", -1000130, 1);
@@ -334,8 +339,10 @@ public final class PromisesTest {
         due.is("8: latest", x.fault(), 2);
         Tape.road(x, "law 10 0 0 0;");
         due.is("8: stays", x.fault(), 2);
-        Tape.road(x, "law");
+        due.is("8: the end, by this tape alone", Tape.road(x, "law"), -1000103);
         due.is("8: the next", x.fault(), 1);
+        Tape.road(x, LAW + "stone 0 0;stone 0 1;stone 0 2;stone 0 3;stone 0 4;stone 0 5;stone");
+        due.is("8: no room", x.fault(), 3);
     }
 
     private static void stand(String what, NightStones x, int... at) {
@@ -402,7 +409,8 @@ public final class PromisesTest {
     private static void proofs() {
         NightStones x = new NightStones();
         due.is("10: no road", x.prove(0), BAD);
-        Tape.road(x, "law 60 1 1 1;stone 0 10;stone 0 20;stone 0 30;mover inn 0 1 5;mover carter 0 1 5;mover inn 2 0 5;");
+        Tape.road(x, "law 60 1 1 1;stone 0 10;stone 0 20;stone 0 30;"
+            + "mover inn 0 1 5;mover carter 0 1 5;mover inn 2 0 5;");
         for (int stone : new int[] {-1, 3, Integer.MIN_VALUE, Integer.MAX_VALUE}) {
             due.is("10: stone " + stone, x.prove(stone), BAD);
         }
@@ -429,6 +437,12 @@ public final class PromisesTest {
         x.night();
         stand("10: on its home", x, 20, 30);
         due.is("10: another is there", x.prove(1), STATE);
+        Tape.road(x, "law 60 1 1 1;stone 0 10;stone 0 20;mover carter 0 0 5;mover carter 1 0 5;");
+        x.night();
+        stand("10: on its home, inward", x, 0, 10);
+        due.is("10: another is there, outward", x.prove(0), STATE);
+        due.is("10: that one first", x.prove(1), 10);
+        due.is("10: then it", x.prove(0), 10);
     }
 
     private static void undoing() {
@@ -457,6 +471,8 @@ public final class PromisesTest {
         stand("11: after 30", x, 90, 150);
         for (int k = 23; k >= 0; k--) {
             due.is("11: yet", x.undo(), k);
+            due.is("11: its night", x.count(3), 6 + k);
+            due.is("11: its place", x.stone(0, 1), 3 * (6 + k));
         }
         due.is("11: the oldest are forgotten", x.undo(), STATE);
         stand("11: six stay", x, 18, 150);
@@ -797,6 +813,8 @@ public final class PromisesTest {
         due.is("25: of the other none", x.restore(0), STATE);
         x.night();
         x.forget();
+        x.time(0, 2, 5, 1);
+        x.time(0, 2, 6, 1);
         due.is("25: restored", x.restore(1), 1);
         due.is("25: nights", x.count(3), 1);
         due.is("25: times", x.count(5), 1);
