@@ -846,7 +846,7 @@ public final class NightStones {
     private static final class Lengths {
         private static final int SIDE = Road.MOST_STONES;
 
-        // At a * SIDE + b: the most by which STONE b stands beyond a (below 0: the least by which it stands short of a).
+        // At a * SIDE + b: the most by which STONE b stands beyond a (below 0: the least by which it is short of a).
         private final int[] bounds = new int[SIDE * SIDE];
 
         private Lengths() {

@@ -233,6 +233,7 @@ public final class PromisesTest {
         tells("la 10 0 0 0;", -1000100, 1);
         tells("Law 10 0 0 0;", -1000100, 1);
         tells("zaw 10 0 0 0;", -1000100, 1);
+        tells("10 0 0 0;", -1000100, 1);
         tells("alaw 10 0 0 0;", -1000100, 1);
         tells("law 10 0 0 0;", 0, 0);
         tells("law 200 20 100 99;", 0, 0);
