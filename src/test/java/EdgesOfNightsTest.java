@@ -212,7 +212,7 @@ public final class EdgesOfNightsTest extends Edges {
         due.is("on a road", x.night(), 0);
     }
 
-    // FULL, "9999 are gone", is out of reach: of 512 calls two at least make the road.
+    // FULL, "9999 are gone", is out of reach: of 512 calls three at least make the road.
     private static void lastCall() {
         due.by("What it is", "An object is used for at most 512 calls after it has been made");
         NightStones x = new NightStones();

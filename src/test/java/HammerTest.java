@@ -4,7 +4,7 @@ import java.util.Random;
 public final class HammerTest {
     private static final int RUNS = 10000, CALLS = 512;
     // What the dearest step takes: two looks, and a text of 25 feeds.
-    private static final int DEAREST = 60;
+    private static final int DEAREST = 80;
     private static final int[] FAR = {Integer.MIN_VALUE, Integer.MIN_VALUE + 1, -1000001, -41, -2, -1, 40, 41, 99, 100,
         255, 256, 399, 400, 1 << 16, 1 << 30, Integer.MAX_VALUE - 1, Integer.MAX_VALUE};
     private static final String[] TEXTS = {
@@ -47,7 +47,7 @@ public final class HammerTest {
 
     private long counted() {
         long all = 0;
-        called += 9 + 2 * x.count(1);
+        called += 10 + 2 * x.count(1);
         for (int what = 0; what <= 6; what++) {
             all = all * 1009 + x.count(what);
         }
