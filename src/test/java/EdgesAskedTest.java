@@ -14,6 +14,7 @@ public final class EdgesAskedTest extends Edges {
         heIsNoSuchOne();
         sizes();
         marks();
+        nearestBodies();
         askedAnew();
         leastAndMostAsked();
         numbersOfAsks();
@@ -116,6 +117,21 @@ public final class EdgesAskedTest extends Edges {
         asked(x, 2, 1, 2 + 20 - 1000, 22, 21, 20);
         asked(x, 3, 1, 3 - (4 - 100), 23, 20, 13, 10);
         asked(x, 4, 1, 4 - 2 * (1 - 100), 23, 20, 14, 13, 10);
+    }
+
+    // Of what each asks the BODY that begins; 10 and 20, that are lent, are the first of none.
+    private static void nearestBodies() {
+        due.by("Terms 4", "(Of an ask the BODY told for the KIND begins, else that of the nearest KIND that it is, too, "
+            + "else the one that is lent");
+        int[] ofSize = {11, 12, 11, 13, 14};
+        int[] ofMark = {21, 24, 22, 23, 23};
+        NightStones x = on(FIVE);
+        for (int mover = 0; mover < 5; mover++) {
+            x.ask(mover, 0);
+            due.is("size of " + mover, x.trace(0), ofSize[mover]);
+            x.ask(mover, 1);
+            due.is("mark of " + mover, x.trace(0), ofMark[mover]);
+        }
     }
 
     private static void askedAnew() {

@@ -22,6 +22,7 @@ public final class EdgesForetoldTest extends Edges {
         setsOfMovers();
         howManySets();
         fromHomesOn();
+        whateverTheNight();
         wheneverOut();
         choicesOfWho();
         yardsOfADare();
@@ -292,12 +293,22 @@ public final class EdgesForetoldTest extends Edges {
         who("home again, on NIGHT 3", x, 0, 4, 0);
         who("home again, on NIGHT 3", x, 1, 1, 0);
         who("home again, on NIGHT 3", x, 2, 2, 0);
-        x = on(200, at(50), "mover parish 0 1 1;");
-        x.night();
-        x.night();
-        who("whatever the NIGHT is now", x, 1, 1, 1);
-        who("whatever the NIGHT is now", x, 2, 1, 1);
-        who("whatever the NIGHT is now", x, 3, 0, NONE);
+    }
+
+    private static void whateverTheNight() {
+        due.by("Terms 3", "so that STONES would stand as they do now (whatever the NIGHT is now)");
+        NightStones x = on(200, at(50), "mover parish 0 1 1;");
+        for (int gone = 1; gone <= 2; gone++) {
+            x.night();
+            who("NIGHT " + gone, x, 0, 0, NONE);
+            who("NIGHT " + gone, x, 1, 1, 1);
+            who("NIGHT " + gone, x, 2, 1, 1);
+            who("NIGHT " + gone, x, 3, 0, NONE);
+        }
+        x = on(200, at(50), "mover thief 0 1 1;");
+        nights(x, 11);
+        who("NIGHT 11", x, 9, 1, 1);
+        who("NIGHT 11", x, 8, 0, NONE);
     }
 
     private static void wheneverOut() {

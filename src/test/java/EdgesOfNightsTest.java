@@ -17,6 +17,7 @@ public final class EdgesOfNightsTest extends Edges {
         homeAsHisTurnComes();
         priestsWay();
         nextNight();
+        firstNight();
         elsewhere();
         noRoadNoNight();
         lastCall();
@@ -173,13 +174,26 @@ public final class EdgesOfNightsTest extends Edges {
     }
 
     private static void nextNight() {
-        due.by("Terms 2", "In a NIGHT (the first is NIGHT 0)");
+        due.by("Terms 2", "Then it is the next NIGHT.");
         NightStones x = on("law 10 0 0 0;");
         for (int n = 0; n < 30; n++) {
             due.is("gone ahead of NIGHT " + n, x.count(3), n);
             due.is("NIGHT " + n, x.night(), 0);
         }
         due.is("gone", x.count(3), 30);
+    }
+
+    private static void firstNight() {
+        due.by("Terms 2", "In a NIGHT (the first is NIGHT 0)");
+        NightStones x = on(100, at(50), "mover parish 0 1 5;");
+        due.is("none is gone", x.count(3), 0);
+        night("it is even", x, 1, 55);
+        due.is("one is gone", x.count(3), 1);
+        x.undo();
+        due.is("it is the first again", x.count(3), 0);
+        night("it is even again", x, 1, 55);
+        Tape.road(x, "law 100 1 1 1;stone 0 50;mover thief 0 1 5;");
+        night("of another road", x, 1, 55);
     }
 
     private static void elsewhere() {

@@ -15,6 +15,7 @@ public final class EdgesOfTapesTest extends Edges {
 
     public static void main(String[] args) {
         roomOnTheTape();
+        noneComes();
         bytesOfAFeed();
         lowestBytes();
         emptyThen();
@@ -39,6 +40,7 @@ public final class EdgesOfTapesTest extends Edges {
         reaches();
         fiveMovers();
         orderOfParts();
+        numbersNotAsTold();
         inPlaceOfTheOneBefore();
         imagesAndRowsStay();
         firstToken();
@@ -99,10 +101,10 @@ public final class EdgesOfTapesTest extends Edges {
             due.is("eight", x.feed(0, 8), FULL);
             due.is("none came", x.count(6), 400);
         }
-        fullTapeIsRead();
     }
 
-    private static void fullTapeIsRead() {
+    private static void noneComes() {
+        due.by("Promise 6", "FULL: none comes.");
         StringBuilder text = new StringBuilder(FIVE_MOVERS);
         while (text.length() < 399) {
             text.insert(4, ' ');
@@ -116,7 +118,7 @@ public final class EdgesOfTapesTest extends Edges {
     }
 
     private static void bytesOfAFeed() {
-        due.by("Promise 6", "The lowest n bytes of w (1 to 8)");
+        due.by("Promise 6", "BAD: n; FULL");
         NightStones x = new NightStones();
         for (int n = 1; n <= 8; n++) {
             due.is("n " + n, x.feed(0, n), n * (n + 1) / 2);
@@ -422,6 +424,30 @@ public final class EdgesOfTapesTest extends Edges {
         faults(LAW + "^stones 0 0;", 1);
         faults(LAW + "^ston 0 0;", 1);
         faults(LAW + "^movers inn 0 0 1;", 1);
+    }
+
+    // Each NUMBER in turn is one more than may be, or the least that may not be, all others are as they may be.
+    private static void numbersNotAsTold() {
+        due.by("Terms 1", "2 a NUMBER that is not as told");
+        String[] words = {"law ", " ", " ", " ", ";stone ", " ", ";stone ", " ", ";mover inn ", " ", " ", ";"};
+        int[] told = {50, 20, 100, 99, 200, 49, 0, 50, 1, 1, 5};
+        int[] above = {201, 21, 101, 100, 201, 51, 201, 51, 2, 2, 6};
+        int[] below = {9, -1, -1, -1, -1, -1, -1, 49, -1, -1, 0};
+        for (int wrong = -1; wrong < told.length; wrong++) {
+            StringBuilder higher = new StringBuilder(words[0]);
+            StringBuilder lower = new StringBuilder(words[0]);
+            for (int k = 0; k < told.length; k++) {
+                higher.append(k == wrong ? "^" + above[k] : "" + told[k]).append(words[k + 1]);
+                lower.append(k == wrong ? "^" + below[k] : "" + told[k]).append(words[k + 1]);
+            }
+            if (wrong < 0) {
+                takes(higher.toString(), 2);
+            } else {
+                faults(higher.toString(), 2);
+                // No NUMBER is below 0: the sign stands for none.
+                faults(lower.toString(), below[wrong] < 0 ? 1 : 2);
+            }
+        }
     }
 
     private static void inPlaceOfTheOneBefore() {

@@ -14,6 +14,7 @@ public final class EdgesOfTimesTest extends Edges {
         fartherOnes();
         atLeastAndLess();
         farHours();
+        cutTowardsNone();
         onTheRoad();
         oneBehindTheOther();
         byAllTogether();
@@ -21,7 +22,9 @@ public final class EdgesOfTimesTest extends Edges {
         whereverTheyStand();
         noWayDoes();
         timesOneMore();
+        noThirteenth();
         timesFromARow();
+        badRowsAndNumbers();
         placesOfTimes();
         farPlacesOfTimes();
         itemsNotAsTold();
@@ -141,6 +144,25 @@ public final class EdgesOfTimesTest extends Edges {
             NightStones x = on(TWO);
             due.is("is taken", x.time(0, 1, one[0], one[1]), 1);
             ends("at " + one[0] + " in " + one[1], x, 0, 1, one[2], one[3]);
+        }
+    }
+
+    // What HOURS a way of so many yards takes: no others fit it.
+    private static void cutTowardsNone() {
+        due.by("Terms", "All that is divided is cut towards 0");
+        for (int v = 1; v <= 20; v++) {
+            NightStones x = on(TWO);
+            for (int apart : new int[] {1, v - 1, v, v + 1, 2 * v - 1, 2 * v, 99}) {
+                for (int more = -1; more <= 1; more++) {
+                    int t = apart / v + more;
+                    if (apart > 0 && t >= 0 && t <= 99) {
+                        x.time(0, 1, 1, apart);
+                        x.time(0, 1, v, t);
+                        due.is(apart + " at " + v + " in " + t, x.ends(0, 1, 0), more == 0 ? apart : NONE);
+                        x.forget();
+                    }
+                }
+            }
         }
     }
 
@@ -280,6 +302,19 @@ public final class EdgesOfTimesTest extends Edges {
         due.is("two", x.time(0, 1, 20, 0), 2);
     }
 
+    private static void noThirteenth() {
+        due.by("Promise 14", "FULL: 12.");
+        NightStones x = on(CROWDED);
+        for (int k = 1; k <= 11; k++) {
+            x.time(k % 5, 5, 20, 0);
+        }
+        due.is("the twelfth", x.time(4, 5, 20, 0), 12);
+        due.is("a thirteenth", x.time(4, 5, 20, 0), FULL);
+        due.is("of others", x.time(0, 1, 1, 99), FULL);
+        due.is("twelve yet", x.count(5), 12);
+        ends("as they were", x, 0, 1, 1, 6);
+    }
+
     private static NightStones withRow(int lane, int size) {
         NightStones x = on("law 200 1 1 1;stone 0 0;stone 0 9;stone 0 20;");
         x.row(0, lane, size);
@@ -296,13 +331,19 @@ public final class EdgesOfTimesTest extends Edges {
         x.forget();
         due.is("ten", x.times(0, 0, 10), 10);
         ends("as they are", x, 0, 1, 27, 35);
+    }
+
+    private static void badRowsAndNumbers() {
+        due.by("Promise 15", "BAD: ROW, n; STATE");
+        NightStones x = withRow(0, 40);
         for (int n : outside(1, 10)) {
             due.is("n " + n, x.times(0, 0, n), BAD);
+            due.is("n " + n + " from a missing", x.times(1, 0, n), BAD);
         }
         for (int row : outside(0, 7)) {
             due.is("row " + row, x.times(row, 0, 1), BAD);
         }
-        due.is("none of these", x.count(5), 10);
+        due.is("none of these", x.count(5), 0);
         due.is("missing", x.times(7, 0, 1), NULL);
     }
 
